@@ -74,32 +74,14 @@ public final class StringRates {
     public int send(int parcel) throws IndexOutOfBoundsException {
         requireParcel(parcel);
         saved.save(office);
-        Parcel sent = office.parcels[parcel];
-        int reason = office.reasonAgainst(sent, sent.way);
-        if (reason != TAKEN) {
-            office.refused++;
-            return reason;
-        }
-        return SENT + office.dispatch(parcel, office.stringOf(sent, sent.way));
+        return office.sendOff(parcel);
     }
 
     public int dispute(int parcel, int length) throws IndexOutOfBoundsException, IllegalArgumentException {
         requireParcel(parcel);
         requireArgument(isIn(length, 1, MOST_LENGTH));
         saved.save(office);
-        Parcel disputed = office.parcels[parcel];
-        int reason = office.reasonAgainst(disputed, disputed.way);
-        if (reason != TAKEN) {
-            office.refused++;
-            return reason;
-        }
-        int difference = Math.abs(length - office.stringOf(disputed, disputed.way));
-        if (difference > office.settings[DISPUTE_MARGIN]) {
-            office.disputesLost++;
-            return DISPUTE_LOST;
-        }
-        office.disputesWon++;
-        return SENT + office.dispatch(parcel, length);
+        return office.decideDispute(parcel, length);
     }
 
     public int takeBack(int parcel) throws IndexOutOfBoundsException {
@@ -151,7 +133,7 @@ public final class StringRates {
 
     public int clearBuffer() {
         int before = text.length;
-        text.length = 0;
+        text.clear();
         return before;
     }
 
@@ -163,7 +145,7 @@ public final class StringRates {
         requireArgument(text.tellsParcels());
         saved.save(office);
         int come = admitAllOfText();
-        text.length = 0;
+        text.clear();
         return come;
     }
 
@@ -302,7 +284,7 @@ public final class StringRates {
         for (int i = 0; i < text.length; i++) {
             text.reads(text.codes[i]);
             if (text.isAtParcelEnd()) {
-                if (office.admitRead(text.parts) == NONE) {
+                if (text.admitReadTo(office) == NONE) {
                     return come;
                 }
                 come++;
@@ -474,13 +456,6 @@ public final class StringRates {
             return size - 1;
         }
 
-        int admitRead(int[] parts) {
-            if (parts.length < ParcelText.PARTS) {
-                return NONE;
-            }
-            return admit(parts[0], parts[1], parts[2], parts[3], parts[4], parts[5]);
-        }
-
         void remove(int parcel) {
             Parcel gone = parcels[parcel];
             for (int i = parcel + 1; i < size && i < parcels.length; i++) {
@@ -491,12 +466,37 @@ public final class StringRates {
             size--;
         }
 
-        int dispatch(int parcel, int length) {
+        int sendOff(int parcel) {
+            Parcel leaving = parcels[parcel];
+            int reason = reasonAgainst(leaving, leaving.way);
+            if (reason != TAKEN) {
+                refused++;
+                return reason;
+            }
+            return dispatch(parcel, stringOf(leaving, leaving.way));
+        }
+
+        int decideDispute(int parcel, int told) {
+            Parcel disputed = parcels[parcel];
+            int reason = reasonAgainst(disputed, disputed.way);
+            if (reason != TAKEN) {
+                refused++;
+                return reason;
+            }
+            if (Math.abs(told - stringOf(disputed, disputed.way)) > settings[DISPUTE_MARGIN]) {
+                disputesLost++;
+                return DISPUTE_LOST;
+            }
+            disputesWon++;
+            return dispatch(parcel, told);
+        }
+
+        private int dispatch(int parcel, int length) {
             int postage = postageFor(parcels[parcel], length);
             takings += postage;
             sent++;
             remove(parcel);
-            return postage;
+            return SENT + postage;
         }
 
         int stringOf(Parcel parcel, int way) {
@@ -610,7 +610,11 @@ public final class StringRates {
         }
 
         private static int bandOf(int length) {
-            return Math.max(0, Math.min((length - 1) / BAND_WIDTH, BANDS - 1));
+            int band = (length - 1) / BAND_WIDTH;
+            if (band < 0) {
+                return 0;
+            }
+            return band < BANDS ? band : BANDS - 1;
         }
 
         private int takenParcels() {
@@ -685,7 +689,7 @@ public final class StringRates {
 
     /** The buffer, and the reading of it from left to right. */
     private static final class ParcelText {
-        static final int PARTS = 6;
+        private static final int PARTS = 6;
         private static final int NUMBERS = 4;
         private static final int ZONE_PART = 4;
         private static final int WAY_PART = 5;
@@ -695,7 +699,7 @@ public final class StringRates {
         final int[] codes = new int[MOST_CODES];
         int length;
         /** Of the parcel that is read: three sides, the weight, the zone and the way. */
-        final int[] parts = new int[PARTS];
+        private final int[] parts = new int[PARTS];
         private int part;
 
         boolean hasRoom() {
@@ -707,6 +711,10 @@ public final class StringRates {
                 codes[length] = code;
                 length++;
             }
+        }
+
+        void clear() {
+            length = 0;
         }
 
         int errorPlace() {
@@ -730,6 +738,10 @@ public final class StringRates {
 
         boolean isAtParcelEnd() {
             return part == PARTS;
+        }
+
+        int admitReadTo(Office office) {
+            return office.admit(parts[0], parts[1], parts[2], parts[3], parts[4], parts[5]);
         }
 
         /** False if the code is a syntax error; then nothing more may be read. */
