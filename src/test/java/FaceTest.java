@@ -11,7 +11,7 @@ import java.util.HashSet;
 import java.util.List;
 import java.util.Set;
 
-/** The public face is that of the document and no more, and the source keeps to rules of LANGUAGE.md that can be read off. */
+/** The public face is that of the document and no more; the source has no word that LANGUAGE.md leaves out. */
 public final class FaceTest {
     private static final String INDEX = "IndexOutOfBoundsException";
     private static final String ARGUMENT = "IllegalArgumentException";
@@ -90,8 +90,9 @@ public final class FaceTest {
         CHECK.due("public constructors", StringRates.class.getConstructors().length, 1);
         for (Field field : StringRates.class.getDeclaredFields()) {
             boolean constant = field.getName().equals("NONE");
-            CHECK.due(field.getName() + " is public", Modifier.isPublic(field.getModifiers()) ? 1 : 0, constant ? 1 : 0);
-            CHECK.due(field.getName() + " is open", isPrivate(field) || constant ? 0 : 1, 0);
+            boolean open = Modifier.isPublic(field.getModifiers());
+            CHECK.due(field.getName() + " is public", open ? 1 : 0, constant ? 1 : 0);
+            CHECK.due(field.getName() + " is neither private nor the constant", isPrivate(field) || constant ? 0 : 1, 0);
             CHECK.due(field.getName() + " is final", Modifier.isFinal(field.getModifiers()) ? 1 : 0, 1);
         }
     }
