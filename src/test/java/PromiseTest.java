@@ -48,17 +48,6 @@ public final class PromiseTest {
         CHECK.due(call, got, want);
     }
 
-    private static void write(StringRates x, String words) {
-        for (char sign : words.toCharArray()) {
-            x.append(sign);
-        }
-    }
-
-    private static void tie(StringRates x, int parcel, int way, int corners) {
-        x.change(parcel, 0, way);
-        x.change(parcel, 1, corners);
-    }
-
     private static void newObject() {
         CHECK.topic("promise 1");
         StringRates x = new StringRates();
@@ -108,7 +97,7 @@ public final class PromiseTest {
         due("corners", x.parcelOf(6, 5), 0);
         due("undo of the refusal", x.undo(), 5);
         due("refused after undo", x.count(7), 0);
-        tie(x, 6, 2, 8);
+        Offices.tie(x, 6, 2, 8);
         x.takeBack(6);
         x.bring(2, 2, 2, 2, 2);
         due("way of a new one", x.parcelOf(6, 6), 0);
@@ -241,7 +230,7 @@ public final class PromiseTest {
         due("not taken, far off", x.dispute(0, 999), 1);
         due("refused", x.count(7), 2);
         due("lost", x.count(6), 3);
-        tie(x, 0, 1, 3);
+        Offices.tie(x, 0, 1, 3);
         x.set(1, 89);
         x.set(3, 50);
         // It needs 150; 201 is of the band 4; odd: 75 + 37 + 6.
@@ -352,17 +341,17 @@ public final class PromiseTest {
     private static void clearBuffer() {
         CHECK.topic("promise 11");
         StringRates x = new StringRates();
-        write(x, "1x1");
+        Offices.write(x, "1x1");
         due("clearBuffer", x.clearBuffer(), 3);
         due("again", x.clearBuffer(), 0);
         due("saved", x.count(9), 0);
-        write(x, "x");
+        Offices.write(x, "x");
         due("nothing is left from before", x.firstError(), 0);
     }
 
     private static void firstErrorOf(String words, int want) {
         StringRates x = new StringRates();
-        write(x, words);
+        Offices.write(x, words);
         due("firstError of " + words, x.firstError(), want);
         due("once more", x.firstError(), want);
         due("the buffer stays", x.clearBuffer(), words.length());
@@ -410,17 +399,17 @@ public final class PromiseTest {
         CHECK.topic("promise 13");
         StringRates x = new StringRates();
         CHECK.refuses("an empty buffer", ARGUMENT, () -> x.run());
-        write(x, "1x1x1*1z0r;");
+        Offices.write(x, "1x1x1*1z0r;");
         CHECK.refuses("it ends with ;", ARGUMENT, () -> x.run());
         due("the buffer stays", x.clearBuffer(), 11);
-        write(x, "1x1x1*1z0");
+        Offices.write(x, "1x1x1*1z0");
         CHECK.refuses("no way", ARGUMENT, () -> x.run());
         x.append('?');
         CHECK.refuses("an error", ARGUMENT, () -> x.run());
         due("parcels", x.count(0), 0);
         due("saved", x.count(9), 0);
         x.clearBuffer();
-        write(x, "7x60x42*99z3d;5x5x6*10z1c;1x1x1*1z0r");
+        Offices.write(x, "7x60x42*99z3d;5x5x6*10z1c;1x1x1*1z0r");
         due("run", x.run(), 3);
         due("the buffer is cleared", x.clearBuffer(), 0);
         due("saved", x.count(9), 1);
@@ -430,7 +419,7 @@ public final class PromiseTest {
                 due("parcel " + parcel + ", " + what, x.parcelOf(parcel, what), want[parcel][what]);
             }
         }
-        write(x, "2x");
+        Offices.write(x, "2x");
         due("undo", x.undo(), 0);
         due("parcels after undo", x.count(0), 0);
         due("undo leaves the buffer", x.clearBuffer(), 2);
@@ -442,13 +431,13 @@ public final class PromiseTest {
         for (int parcel = 0; parcel < 4; parcel++) {
             x.bring(1, 1, 1, 1, 0);
         }
-        write(x, "1x1x1*1z0r;1x1x1*2z0c;1x1x1*3z0d;1x1x1*4z0r;1x1x1*5z0r");
+        Offices.write(x, "1x1x1*1z0r;1x1x1*2z0c;1x1x1*3z0d;1x1x1*4z0r;1x1x1*5z0r");
         due("run", x.run(), 3);
         due("parcels", x.count(0), 7);
         due("one is refused", x.count(7), 1);
         due("the last", x.parcelOf(6, 3), 3);
         due("saved", x.count(9), 5);
-        write(x, "1x1x1*1z0r;1x1x1*2z0c");
+        Offices.write(x, "1x1x1*1z0r;1x1x1*2z0c");
         due("none comes", x.run(), 0);
         due("two are refused", x.count(7), 2);
         due("saved, though none comes", x.count(9), 6);
@@ -490,7 +479,7 @@ public final class PromiseTest {
         x.price(0, 99);
         x.zone(0, 9);
         x.set(0, 20);
-        write(x, "1x");
+        Offices.write(x, "1x");
         due("saved", x.count(9), 5);
         due("goBack", x.goBack(1), 0);
         due("saved states stay, one more", x.count(9), 6);
@@ -552,7 +541,7 @@ public final class PromiseTest {
         CHECK.topic("exceptions");
         StringRates x = new StringRates();
         x.bring(9, 8, 7, 6, 0);
-        write(x, "1x1x1*1z0r!");
+        Offices.write(x, "1x1x1*1z0r!");
         x.keep(0);
         long before = x.digest();
         CHECK.refuses("bring", ARGUMENT, () -> x.bring(9, 8, 7, 6, 9));
@@ -576,7 +565,7 @@ public final class PromiseTest {
         CHECK.refuses("no parcel, no what", INDEX, () -> x.parcelOf(0, 11));
         x.bring(10, 60, 20, 31, 3);
         x.bring(60, 60, 60, 31, 3);
-        tie(x, 1, 1, 8);
+        Offices.tie(x, 1, 1, 8);
         int[] want = {60, 20, 10, 31, 3, 0, 0, 120, 65, 40, 1};
         int[] other = {60, 60, 60, 31, 3, 8, 1, 300, 490, 316, 0};
         for (int what = 0; what <= 10; what++) {
@@ -751,8 +740,8 @@ public final class PromiseTest {
         // 30, 12 and 11: 2 * (12 + 11) + 5 = 51: the band 1.
         due("both once round", x.ifBundled(0, 1), 20);
         due("the other way round", x.ifBundled(1, 0), 20);
-        tie(x, 0, 2, 8);
-        tie(x, 1, 1, 7);
+        Offices.tie(x, 0, 2, 8);
+        Offices.tie(x, 1, 1, 7);
         // 120 + 24 + 66 + 15 = 225: the band 4; 15 corners.
         due("the greater way, all corners", x.ifBundled(0, 1), 80);
         x.set(1, 75);
