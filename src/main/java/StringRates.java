@@ -281,7 +281,7 @@ public final class StringRates {
     private int admitAllOfText() {
         int come = 0;
         text.startReading();
-        for (int i = 0; i < text.length; i++) {
+        for (int i = 0; i < text.length && i < text.codes.length; i++) {
             text.reads(text.codes[i]);
             if (text.isAtParcelEnd()) {
                 if (text.admitReadTo(office) == NONE) {
@@ -458,11 +458,13 @@ public final class StringRates {
 
         void remove(int parcel) {
             Parcel gone = parcels[parcel];
+            int last = parcel;
             for (int i = parcel + 1; i < size && i < parcels.length; i++) {
                 parcels[i - 1] = parcels[i];
+                last = i;
             }
             // The object is used again for a later parcel, so that none is made after the start.
-            parcels[size - 1] = gone;
+            parcels[last] = gone;
             size--;
         }
 

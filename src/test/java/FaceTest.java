@@ -106,6 +106,11 @@ public final class FaceTest {
         for (Method method : StringRates.class.getMethods()) {
             names.add(method.getName());
         }
+        for (Method method : StringRates.class.getDeclaredMethods()) {
+            if (isPrivate(method) && names.contains(method.getName())) {
+                CHECK.tell("a private method has a name of the face: " + method.getName());
+            }
+        }
         for (Class<?> inside : StringRates.class.getDeclaredClasses()) {
             for (Method method : inside.getDeclaredMethods()) {
                 if (names.contains(method.getName())) {
